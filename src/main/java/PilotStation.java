@@ -39,6 +39,13 @@ public final class PilotStation {
     private static final int ENDED = 2;
     private static final int TURNED_BACK = 3;
 
+    /** The what of look() and of craft() that count() adds up. */
+    private static final int LOOK_TURNS = 5;
+    private static final int LOOK_HOURS_LED = 6;
+    private static final int CRAFT_TIDE_HOURS = 5;
+    private static final int CRAFT_PILOT_HOURS = 6;
+    private static final int CRAFT_BOAT_HOURS = 7;
+
     private static final int AGAINST_NOTHING = 0;
     private static final int AGAINST_LICENCE = 1;
     private static final int AGAINST_DAY_OFF = 2;
@@ -296,8 +303,8 @@ public final class PilotStation {
             case 2: return seen.draught;
             case 3: return seen.duty.where;
             case 4: return seen.duty.restedFrom;
-            case 5: return seen.duty.turns;
-            case 6: return seen.duty.hoursLed;
+            case LOOK_TURNS: return seen.duty.turns;
+            case LOOK_HOURS_LED: return seen.duty.hoursLed;
             case 7: return roster.placeOf(seen);
             case 8: return seen.duty.aboard == null ? NONE : seen.duty.aboard.number;
             case 9: return seen.willing ? 1 : 0;
@@ -314,9 +321,9 @@ public final class PilotStation {
             case 2: return numberOf(seen.trip.leader);
             case 3: return numberOf(seen.trip.second);
             case 4: return numberOf(seen.trip.learner);
-            case 5: return seen.trip.tideHours;
-            case 6: return seen.trip.pilotHours;
-            case 7: return seen.trip.boatHours;
+            case CRAFT_TIDE_HOURS: return seen.trip.tideHours;
+            case CRAFT_PILOT_HOURS: return seen.trip.pilotHours;
+            case CRAFT_BOAT_HOURS: return seen.trip.boatHours;
             case 8: return seen.length;
             case 9: return seen.draught;
             default: throw new IllegalArgumentException("no such what");
@@ -346,12 +353,12 @@ public final class PilotStation {
             case 5: return shipsThat(LED);
             case 6: return shipsThat(ENDED);
             case 7: return shipsThat(TURNED_BACK);
-            case 8: return allTurns();
-            case 9: return allHoursLed();
+            case 8: return sumOfLooks(LOOK_TURNS);
+            case 9: return sumOfLooks(LOOK_HOURS_LED);
             case 10: return roster.length();
-            case 11: return allTideHours();
-            case 12: return allPilotHours();
-            case 13: return allBoatHours();
+            case 11: return sumOfCrafts(CRAFT_TIDE_HOURS);
+            case 12: return sumOfCrafts(CRAFT_PILOT_HOURS);
+            case 13: return sumOfCrafts(CRAFT_BOAT_HOURS);
             case 14: return askedLog.all;
             default: return NONE;
         }
@@ -645,42 +652,18 @@ public final class PilotStation {
         return sum;
     }
 
-    private int allTurns() {
+    private int sumOfLooks(int what) {
         int sum = 0;
         for (int i = 0; i < pilots.size(); i++) {
-            sum += pilots.get(i).duty.turns;
+            sum += look(i, what);
         }
         return sum;
     }
 
-    private int allHoursLed() {
-        int sum = 0;
-        for (int i = 0; i < pilots.size(); i++) {
-            sum += pilots.get(i).duty.hoursLed;
-        }
-        return sum;
-    }
-
-    private int allTideHours() {
+    private int sumOfCrafts(int what) {
         int sum = 0;
         for (int i = 0; i < ships.size(); i++) {
-            sum += ships.get(i).trip.tideHours;
-        }
-        return sum;
-    }
-
-    private int allPilotHours() {
-        int sum = 0;
-        for (int i = 0; i < ships.size(); i++) {
-            sum += ships.get(i).trip.pilotHours;
-        }
-        return sum;
-    }
-
-    private int allBoatHours() {
-        int sum = 0;
-        for (int i = 0; i < ships.size(); i++) {
-            sum += ships.get(i).trip.boatHours;
+            sum += craft(i, what);
         }
         return sum;
     }

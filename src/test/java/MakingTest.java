@@ -112,6 +112,17 @@ public final class MakingTest {
         Check.due("tear again", x.tear(0), false);
         Check.due("torn", x.window(0, 23), false);
         Check.due("tide behind tear begins anew", x.tide(0, 0), 1);
+        x.tear(399);
+        Check.due("nothing is left of a torn row", x.window(0, 399 * 24), false);
+        x.tide(399, 50);
+        Check.due("told anew", x.window(0, 399 * 24), true);
+        for (int i = 0; i < 3; i++) {
+            x.tide(7, 200);
+        }
+        x.tear(7);
+        x.tide(7, 200);
+        Check.due("told anew", x.window(0, 7 * 24), true);
+        Check.due("what was told ahead of tear is gone", x.window(0, 7 * 24 + 1), false);
         Check.due("the other day's row stays", x.window(0, 399 * 24), true);
         Check.throwing("tear(-1)", INDEX, () -> x.tear(-1));
         Check.throwing("tear(400)", INDEX, () -> x.tear(400));
@@ -141,6 +152,7 @@ public final class MakingTest {
         for (int road = 0; road <= 5; road++) {
             PilotStation x = onePilotBroughtIn(road);
             Check.due("road " + road + " at the END", x.look(0, 3), road == 0 ? 0 : 3);
+            Check.due("not aboard any more", x.look(0, 8), -1);
             x.road(road == 0 ? 5 : 0);
             for (int i = 1; i <= road; i++) {
                 x.hour();
@@ -187,6 +199,21 @@ public final class MakingTest {
         Check.due("clock 6 is day", restedAfterOut(0, 10, 5, 30), 31);
         Check.due("clock 5 is night", restedAfterOut(0, 10, 5, 29), 30 + 10);
         Check.due("no rest", restedAfterOut(0, 0, 0, 3), 4);
+        Check.due("8 and 4 for twice at first", restedAfterTwo(), 19 + 12);
+    }
+
+    /** From when on who came in with two ships, with an END at 7 and at 19, is rested. */
+    private static int restedAfterTwo() {
+        PilotStation y = Check.openFor(1);
+        y.pilot(1, 0, 0);
+        y.boat(16777215, 1);
+        y.ship(true, 50, 1, 6, -1, false);
+        y.ship(true, 50, 1, 18, -1, false);
+        Check.hours(y, 15);
+        Check.due("rested at 15", y.look(0, 7), 0);
+        Check.hours(y, 4);
+        Check.due("ended", y.craft(1, 0), 2);
+        return y.look(0, 4);
     }
 
     /** From when on the leader of a ship of one hour, gone at an hour, is rested; a base below 0 is not told. */

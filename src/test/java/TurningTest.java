@@ -10,6 +10,7 @@ public final class TurningTest {
         backOfASwapped();
         swaps();
         undoOfAll();
+        undoOfSeatsBack();
         undoOnce();
         undoIsRefused();
         undoBehindBackAndSwap();
@@ -98,6 +99,9 @@ public final class TurningTest {
             Check.due("at the station", x.look(p, 3), 0);
             Check.due("not aboard", x.look(p, 8), -1);
         }
+        for (int what = 2; what <= 4; what++) {
+            Check.due("turned back: craft(0, " + what + ")", x.craft(0, what), -1);
+        }
     }
 
     private static void backToAShorterList() {
@@ -167,8 +171,17 @@ public final class TurningTest {
         Check.due("leader of 1", y.craft(1, 2), 0);
         Check.due("aboard of", y.look(0, 8), 1);
         Check.due("aboard of", y.look(1, 8), 0);
+        y.pilot(1, 0, 0);
+        y.pilot(1, 0, 0);
+        y.pilot(1, 0, 0);
+        y.ship(false, 60, 9, 0, -1, false);
+        y.ship(false, 40, 9, 0, -2, false);
         y.hour();
         Check.due("too late", y.swap(0, 1), false);
+        Check.due("too late for one", y.swap(0, 2), false);
+        Check.due("too late for the other", y.swap(2, 0), false);
+        Check.due("one has a second one", y.swap(2, 3), false);
+        Check.due("the other has a second one", y.swap(3, 2), false);
         Check.due("pilot 0 led for one hour", y.look(0, 6), 1);
         Check.due("pilot 1 is led on", y.look(1, 3), 2);
     }
@@ -182,7 +195,10 @@ public final class TurningTest {
         x.ship(true, 70, 1, 0, -2, false);
         x.ship(true, 60, 200, 0, -1, false);
         x.ship(false, 150, 9, 4, -1, false);
-        for (int i = 0; i < 40; i++) {
+        x.pilot(2, 0, 0);
+        x.ship(false, 300, 9, 20, -2, true);
+        x.ship(false, 20, 9, 46, -1, false);
+        for (int i = 0; i < 50; i++) {
             String before = State.of(x);
             int went = x.hour();
             String behind = State.of(x);
@@ -195,7 +211,26 @@ public final class TurningTest {
             Check.due("the same at " + i, State.of(x).equals(behind), true);
             Check.due("the same asked", x.count(14), asked);
         }
+        Check.due("two were led with a learner", x.craft(4, 3) != -1 && x.craft(4, 4) != -1, true);
+        Check.due("tides kept one waiting", x.count(11) > 0, true);
+        Check.due("pilots or boats kept one waiting", x.count(12) > 0 && x.count(13) > 0, true);
         Check.due("ships were led", x.count(6) > 1, true);
+    }
+
+    /** Who went to the STATION in an hour() that is undone was at the POST as long as before. */
+    private static void undoOfSeatsBack() {
+        PilotStation x = seniors(2);
+        x.ship(false, 50, 1, 1, 1, false);
+        x.ship(false, 50, 1, 2, 0, false);
+        x.boat(1 << 4, 1);
+        Check.hours(x, 5);
+        for (int i = 0; i < 3; i++) {
+            x.hour();
+            Check.due("the longest went", x.look(1, 3), 0);
+            Check.due("the other did not", x.look(0, 3), 1);
+            Check.due("undo", x.undo(), true);
+            Check.due("at the post again", x.look(1, 3), 1);
+        }
     }
 
     private static void undoOnce() {
