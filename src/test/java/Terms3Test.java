@@ -124,7 +124,7 @@ public final class Terms3Test {
         x.will(0, false);
         x.ship(true, 10, 1, 0, -1, false);
         x.ship(false, 10, 1, 0, 0, false);
-        x.hour();
+        Check.due("none goes", x.hour(), 0);
         for (int s = 0; s < 2; s++) {
             Check.dueWaits("by the TIDE alone", x, s, 1, 0, 0);
         }
