@@ -23,6 +23,8 @@ public final class Promises11To14Test {
         undoBringsAllBack();
         undoBringsThePlacesBack();
         undoBringsTheWillingBackInTheList();
+        undoBringsTheWaitsBack();
+        undoBringsBackWhoCameFirst();
         undoBringsEndsAndRoadsBack();
         Check.end("Promises11To14Test");
     }
@@ -327,6 +329,50 @@ public final class Promises11To14Test {
         x.undo();
         Check.dueList("as ahead of it", x, 0, 1, 2);
         Check.dueWaits("as ahead of it", x, 0, 0, 0, 0);
+    }
+
+    private static void undoBringsTheWaitsBack() {
+        Check.sentence("Promise 14", "All is as ahead of the latest hour(): true");
+        PilotStation x = new PilotStation();
+        for (int hour = 0; hour < 5; hour++) {
+            x.tide(0, 50);
+        }
+        Check.pilots(x, 2, 1);
+        Check.pilots(x, 1, 1);
+        x.ship(false, 30, 51, 0, -1, false);
+        x.ship(false, 20, 50, 0, 0, false);
+        x.ship(true, 10, 50, 0, 1, false);
+        for (int waited = 0; waited < 3; waited++) {
+            Check.due("none goes", x.hour(), 0);
+            Check.due("undo()", x.undo(), true);
+            Check.dueWaits("as ahead of it", x, 0, waited, 0, 0);
+            Check.dueWaits("as ahead of it", x, 1, 0, waited, 0);
+            Check.dueWaits("as ahead of it", x, 2, 0, 0, waited);
+            x.hour();
+            for (int what = 11; what <= 13; what++) {
+                Check.due("count(" + what + ")", x.count(what), waited + 1);
+            }
+        }
+    }
+
+    private static void undoBringsBackWhoCameFirst() {
+        Check.sentence("Promise 14", "All is as ahead of the latest hour(): true");
+        PilotStation x = Check.seniors(2);
+        x.rest(40, 0, 0);
+        x.ship(false, 50, 1, 1, 1, false);
+        x.ship(false, 50, 1, 2, 0, false);
+        x.boat(1 << 4, 1);
+        Check.hoursTo(x, 2);
+        x.rest(0, 0, 0);
+        Check.hoursTo(x, 5);
+        Check.due("1 came at 2, but rests long", x.look(1, 4), 42);
+        for (int i = 0; i < 3; i++) {
+            x.hour();
+            Check.due("1 went to the STATION", x.look(1, 3), 0);
+            Check.due("0 came at 3", x.look(0, 3), 1);
+            Check.due("undo()", x.undo(), true);
+            Check.due("1 is at the POST again", x.look(1, 3), 1);
+        }
     }
 
     private static void undoBringsEndsAndRoadsBack() {

@@ -377,6 +377,15 @@ public final class Promises15To23Test {
         Check.hours(x, 12);
         Check.due("TURNS", x.look(1, 5), 3);
         Check.due("0, 3 and 1 of the SENIORS, 2 and 0 of the others", x.fair(), 3);
+        PilotStation y = Check.seniors(1);
+        Check.pilots(y, 0, 3);
+        y.ship(false, 300, 1, 0, 1, false);
+        y.ship(false, 200, 1, 0, 3, false);
+        Check.hours(y, 6);
+        Check.due("HOURS LED are none of it", y.look(1, 6), 4);
+        Check.due("1, 0 and 1 of those behind the first", y.fair(), 1);
+        y.off(2, 0, true);
+        Check.due("1 and 1", y.fair(), 0);
     }
 
     private static void countOfOthers() {

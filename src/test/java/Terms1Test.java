@@ -81,6 +81,19 @@ public final class Terms1Test {
         Check.dueAsked("at 23 day 0 is OFF", x, Check.row(0, 0, 2));
         x.hour();
         Check.dueAsked("at 24 it is day 1", x, Check.row(0, 0, 0), Check.row(1, 1, 2));
+        for (int wants = -2; wants <= -1; wants++) {
+            PilotStation y = Check.seniors(5);
+            y.off(0, 0, true);
+            y.off(1, 1, true);
+            y.off(3, 0, true);
+            y.off(4, 1, true);
+            y.ship(false, 20, 1, 23, wants, false);
+            y.ship(false, 10, 1, 24, wants, false);
+            Check.hoursTo(y, 23);
+            Check.dueCrew("at 23, wants " + wants, y, 0, 1, wants == -2 ? 2 : -1, -1);
+            y.hour();
+            Check.dueCrew("at 24, wants " + wants, y, 1, 0, wants == -2 ? 3 : -1, -1);
+        }
     }
 
     private static void nowAtFirst() {

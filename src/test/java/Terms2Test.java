@@ -108,6 +108,7 @@ public final class Terms2Test {
             for (int hour = 11; hour <= 17; hour++) {
                 for (int p = 0; p < 3; p++) {
                     Check.due("ROAD " + road + ", pilot " + p + " at " + hour, x.look(p, 3), hour < 11 + road ? 3 : 0);
+                    Check.due("ROAD " + road + ", pilot " + p + " is ABOARD no more at " + hour, x.look(p, 8), -1);
                 }
                 x.hour();
             }

@@ -13,6 +13,7 @@ public final class Terms3Test {
         listAsItWasWhenThatSeekingBegan();
         secondSeekingBeginsAnew();
         theLeaderAside();
+        twoSeconds();
         noLeaderNoSecondOne();
         Against.main();
         GoingAndWaiting.main();
@@ -206,6 +207,19 @@ public final class Terms3Test {
         Check.dueCrew("nobody yet", x, 0, -1, -1, -1);
     }
 
+    private static void twoSeconds() {
+        Check.sentence("Terms 1", "a SECOND any that WANTS two");
+        PilotStation x = Check.openFor(1);
+        x.pilot(3, 0, 0);
+        x.pilot(3, 0, 0);
+        x.ship(false, 400, 200, 0, -1, false);
+        x.ship(false, 400, 200, 0, -2, false);
+        Check.due("the one that WANTS two goes", x.hour(), 1);
+        Check.dueAsked("neither for the one that WANTS one", x, Check.row(0, 0, 1), Check.row(0, 1, 1),
+                Check.row(1, 0, 0), Check.row(1, 1, 0));
+        Check.dueCrew("two SECONDS", x, 1, 0, 1, -1);
+    }
+
     /** Read so that there is no SECOND ONE to a LEADER who was not found: nobody is asked twice in vain. */
     private static void noLeaderNoSecondOne() {
         Check.sentence("Terms 3", "Else it SEEKS a LEADER, and if it WANTS two then a SECOND ONE");
@@ -229,6 +243,7 @@ public final class Terms3Test {
             inFromTheStation();
             seatsOfNow();
             seatsUsedUp();
+            seatsNotUsed();
             theLeadersSeat();
             theLeaderFromThePost();
             toTheEndAtOnce();
@@ -366,6 +381,26 @@ public final class Terms3Test {
             Check.dueAsked("none is left for the third", x, Check.row(0, 0, 0), Check.row(0, 1, 0), Check.row(1, 2, 0),
                     Check.row(2, 3, 3), Check.row(2, 4, 3), Check.row(3, 3, 0));
             Check.dueWaits("BOATS", x, 2, 0, 0, 1);
+        }
+
+        private static void seatsNotUsed() {
+            Check.sentence("Terms 3", "with one of NOW's SEATS OUT left for them");
+            PilotStation x = Check.seniors(3);
+            Check.pilots(x, 2, 1);
+            x.boat(Check.ALL_DAY, 1);
+            x.ship(false, 60, 1, 0, -2, true);
+            x.ship(true, 50, 1, 0, -1, false);
+            Check.due("to go OUT nobody needs a SEAT", x.hour(), 2);
+            Check.dueCrew("two and a LEARNER", x, 0, 0, 1, 3);
+            Check.dueCrew("by the one SEAT", x, 1, 2, -1, -1);
+            PilotStation y = atThePost(2);
+            Check.pilots(y, 1, 1);
+            y.boat(1 << 2, 1);
+            y.ship(true, 60, 1, 0, -2, false);
+            y.ship(true, 50, 1, 0, -1, false);
+            Check.due("from the POST nobody needs a SEAT", y.hour(), 2);
+            Check.dueCrew("both from the POST", y, 2, 0, 1, -1);
+            Check.dueCrew("by the one SEAT", y, 3, 2, -1, -1);
         }
 
         private static void theLeadersSeat() {

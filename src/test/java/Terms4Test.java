@@ -7,11 +7,15 @@ public final class Terms4Test {
         inBeginsAtThePost();
         comeAtNow();
         comeAtNowByNumbers();
+        comeAtNowAheadOfOthers();
         restedAsBefore();
         placesAsThatHourBegan();
         placesTheLesserFirst();
+        placesTheLesserFirstInALongerList();
+        placesTheLesserFirstInAShorterList();
         placeAtTheVeryEnd();
         listThatIsShorter();
+        placeTheLastOfSixty();
         placesBehindNewOnes();
         waitsStayTold();
         seatIsNotGivenBack();
@@ -121,6 +125,32 @@ public final class Terms4Test {
         Check.due("1 has the next", x.look(1, 3), 1);
         x.hour();
         Check.due("1 is at the STATION", x.look(1, 3), 0);
+        PilotStation y = Check.seniors(2);
+        y.ship(true, 50, 1, 3, 0, false);
+        y.ship(false, 150, 1, 1, 1, false);
+        y.boat(1 << 2, 1);
+        Check.hoursTo(y, 3);
+        y.back(0);
+        y.hour();
+        Check.due("0 came at 3 too, and is the lesser number", y.look(0, 3), 0);
+        Check.due("1 stays", y.look(1, 3), 1);
+    }
+
+    private static void comeAtNowAheadOfOthers() {
+        Check.sentence("Terms 4", "there they count as come at NOW");
+        PilotStation x = Check.seniors(3);
+        x.ship(true, 50, 1, 3, 1, false);
+        x.ship(false, 150, 1, 2, 0, false);
+        x.ship(false, 50, 1, 1, 2, false);
+        x.boat(1 << 2, 1);
+        Check.hoursTo(x, 3);
+        x.back(0);
+        x.hour();
+        Check.due("the boat of 2 took 2, who came at 2", x.look(2, 3), 0);
+        x.boat(1 << 4, 1);
+        Check.hours(x, 2);
+        Check.due("1 came at 3", x.look(1, 3), 0);
+        Check.due("0 has its END at 4", x.look(0, 3), 1);
     }
 
     private static void restedAsBefore() {
@@ -181,6 +211,36 @@ public final class Terms4Test {
         Check.dueList("the LEARNER, with the least place, first", y, 0, 1, 2);
     }
 
+    private static void placesTheLesserFirstInALongerList() {
+        Check.sentence("Terms 4", "by these places, the lesser first");
+        PilotStation x = Check.openFor(1);
+        Check.pilots(x, 2, 1);
+        Check.pilots(x, 0, 1);
+        Check.pilots(x, 1, 1);
+        Check.pilots(x, 0, 2);
+        x.ship(false, 40, 1, 0, 2, true);
+        x.hour();
+        Check.dueCrew("2 and 0", x, 0, 2, -1, 0);
+        Check.dueList("left", x, 1, 3, 4);
+        x.back(0);
+        Check.dueList("the LEARNER to 0, then the LEADER to 2", x, 0, 1, 2, 3, 4);
+    }
+
+    private static void placesTheLesserFirstInAShorterList() {
+        Check.sentence("Terms 4", "by these places, the lesser first, or at its end if it is shorter");
+        PilotStation x = Check.seniors(1);
+        Check.pilots(x, 2, 1);
+        Check.pilots(x, 1, 1);
+        x.ship(false, 50, 1, 0, 0, false);
+        x.ship(false, 40, 1, 0, 2, true);
+        Check.due("both go", x.hour(), 2);
+        Check.dueCrew("2 and 1", x, 1, 2, -1, 1);
+        x.back(1);
+        Check.dueList("the LEARNER to the end, then the LEADER", x, 1, 2);
+        x.back(0);
+        Check.dueList("all", x, 0, 1, 2);
+    }
+
     private static void placeAtTheVeryEnd() {
         Check.sentence("Terms 4", "or at its end if it is shorter");
         PilotStation x = Check.seniors(3);
@@ -209,6 +269,33 @@ public final class Terms4Test {
         Check.dueList("place 2 of a LIST of 2", x, 0, 3, 2);
         x.back(0);
         Check.dueList("place 1 of a LIST of 3", x, 0, 1, 3, 2);
+    }
+
+    private static void placeTheLastOfSixty() {
+        Check.sentence("Terms 4", "in the LIST at the place (from 0) at which they were as that hour() began");
+        PilotStation x = Check.seniors(60);
+        x.ship(false, 60, 1, 0, 59, false);
+        x.ship(false, 50, 1, 0, 0, false);
+        Check.due("both go", x.hour(), 2);
+        Check.due("the last place to the first", x.back(1) && x.back(0), true);
+        for (int p = 0; p < 60; p++) {
+            Check.due("the place of " + p, x.look(p, 7), p);
+        }
+        Check.due("all at the STATION", x.look(59, 3) + x.look(0, 3), 0);
+        PilotStation y = Check.openFor(1);
+        Check.pilots(y, 0, 57);
+        Check.pilots(y, 2, 1);
+        Check.pilots(y, 1, 2);
+        for (int p = 0; p < 57; p++) {
+            y.off(p, 0, true);
+        }
+        y.ship(false, 60, 1, 0, -2, true);
+        y.hour();
+        Check.dueCrew("the last three", y, 0, 58, 59, 57);
+        Check.due("back()", y.back(0), true);
+        for (int p = 0; p < 60; p++) {
+            Check.due("the place of " + p, y.look(p, 7), p);
+        }
     }
 
     private static void placesBehindNewOnes() {
