@@ -15,6 +15,7 @@ public final class Promises15To23Test {
         askedAheadOfAny();
         askedBehindUndo();
         askedInTheLatestAlone();
+        askedWithoutLearnersAlong();
         threeHundredAreKept();
         lookThrows();
         lookRestedAheadOfAnyEnd();
@@ -171,6 +172,24 @@ public final class Promises15To23Test {
         x.tear(0);
         x.hour();
         Check.dueAsked("nobody in the latest", x);
+    }
+
+    private static void askedWithoutLearnersAlong() {
+        Check.sentence("Promise 19", "(LEARNERS along are not asked so.)");
+        PilotStation x = Check.seniors(1);
+        Check.pilots(x, 2, 2);
+        x.will(1, false);
+        x.ship(false, 50, 1, 0, -1, true);
+        x.hour();
+        Check.dueCrew("a LEARNER is along", x, 0, 0, -1, 2);
+        Check.dueAsked("the LEADER alone", x, Check.row(0, 0, 0));
+        PilotStation y = Check.openFor(1);
+        Check.pilots(y, 2, 1);
+        Check.pilots(y, 1, 1);
+        y.ship(false, 50, 1, 0, -1, true);
+        y.hour();
+        Check.dueCrew("the same LEARNER is along", y, 0, 1, -1, 0);
+        Check.dueAsked("as a LEADER a LEARNER was asked too", y, Check.row(0, 0, 1), Check.row(0, 1, 0));
     }
 
     /** A station with 60 LEARNERS, each of whom is asked in vain by each of so many SHIPS; one SHIP asks 0 alone. */
