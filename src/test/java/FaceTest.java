@@ -10,16 +10,10 @@ import java.util.HashSet;
 import java.util.Set;
 import java.util.TreeSet;
 import java.util.regex.Pattern;
+import java.util.stream.Collectors;
 
 /** The face of the document and those rules of LANGUAGE.md that can be seen from outside or in the text. */
 public final class FaceTest {
-    private static final String[] FACE = {
-        "int pilot(int,int,int)", "int ship(boolean,int,int,int,int,boolean)", "int tide(int,int)",
-        "boolean tear(int)", "int boat(int,int)", "void road(int)", "void rest(int,int,int)",
-        "boolean off(int,int,boolean)", "boolean will(int,boolean)", "int hour()", "boolean back(int)",
-        "boolean swap(int,int)", "boolean undo()", "boolean may(int,int)", "boolean window(int,int)",
-        "int seats(int,boolean)", "int list(int)", "int asked(int,int)", "int look(int,int)", "int craft(int,int)",
-        "int fair()", "int count(int)"};
     private static final String[] NOT_IN_THE_TEXT = {
         "->", "::", "\\bcatch\\b", "\\btry\\b", "\\bfinally\\b", "\\bsynchronized\\b", "\\bassert\\b",
         "\\bpackage\\b", "static \\{", "Exact\\(", "\\bSystem\\.(out|err|in|nanoTime|currentTimeMillis)",
@@ -34,7 +28,7 @@ public final class FaceTest {
         Check.end("FaceTest");
     }
 
-    private static void face() {
+    private static void face() throws IOException {
         Class<?> c = PilotStation.class;
         Check.due("final", Modifier.isFinal(c.getModifiers()), true);
         Constructor<?>[] made = c.getDeclaredConstructors();
@@ -43,18 +37,28 @@ public final class FaceTest {
         Set<String> open = new TreeSet<>();
         for (Method m : c.getDeclaredMethods()) {
             if (!Modifier.isPrivate(m.getModifiers())) {
-                open.add(m.getReturnType() + " " + m.getName() + "("
-                        + Arrays.toString(m.getParameterTypes()).replaceAll("[\\[\\] ]", "") + ")");
+                Check.due("public and of an object: " + m.getName(), m.getModifiers(), Modifier.PUBLIC);
+                open.add(m.getReturnType() + " " + m.getName() + names(m.getParameterTypes(), "(", ")")
+                        + names(m.getExceptionTypes(), " throws ", ""));
             }
         }
-        Set<String> due = new TreeSet<>(Arrays.asList(FACE));
-        Check.due("the methods " + open, open.equals(due), true);
+        Set<String> due = new TreeSet<>();
+        for (Document.Method m : Document.face()) {
+            due.add(m.types() + " throws " + String.join(",", m.exceptions()));
+        }
+        Check.due("the document's methods", due.size(), 22);
+        Check.due("the methods " + open + " as the document's " + due, open.equals(due), true);
+        Check.due("NONE", PilotStation.NONE, -1);
     }
 
-    private static void members() {
+    private static String names(Class<?>[] types, String before, String behind) {
+        return Arrays.stream(types).map(Class::getSimpleName).collect(Collectors.joining(",", before, behind));
+    }
+
+    private static void members() throws IOException {
         Set<String> names = new HashSet<>();
-        for (String method : FACE) {
-            names.add(method.substring(method.indexOf(' ') + 1, method.indexOf('(')));
+        for (Document.Method method : Document.face()) {
+            names.add(method.name());
         }
         for (Method m : PilotStation.class.getDeclaredMethods()) {
             boolean hides = Modifier.isPrivate(m.getModifiers()) && names.contains(m.getName());
@@ -73,8 +77,19 @@ public final class FaceTest {
             boolean closed = !Modifier.isPublic(c.getModifiers()) && !Modifier.isProtected(c.getModifiers());
             Check.due("class inside " + c.getName(), closed && Modifier.isStatic(c.getModifiers()), true);
             fields(c);
+            parameters(c);
         }
         fields(PilotStation.class);
+        parameters(PilotStation.class);
+    }
+
+    private static void parameters(Class<?> c) {
+        for (Method m : c.getDeclaredMethods()) {
+            Check.due("at most seven parameters: " + m, m.getParameterCount() <= 7, true);
+        }
+        for (Constructor<?> made : c.getDeclaredConstructors()) {
+            Check.due("at most seven parameters: " + made, made.getParameterCount() <= 7, true);
+        }
     }
 
     private static void fields(Class<?> c) {
